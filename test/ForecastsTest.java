@@ -15,6 +15,7 @@ public final class ForecastsTest {
         bestHandOfHigherDesks();
         bestHandOfFullDesks();
         leastSmall();
+        leastSmallByTurns();
         leastSmallAtTheEdge();
         leastSmallOfStuckTrunks();
         nothingChanges();
@@ -111,6 +112,9 @@ public final class ForecastsTest {
         brought(x, 200, 3, 1, 55);
         x.turn(2);
         brought(x, 1, 2, 1, 45);
+        x.turn(1);
+        brought(x, 200, 0, 0, 0);
+        x.undo();
         x.hands(2, 0);
         x.set(DoubtfulTrunks.DELAY, 20);
         brought(x, 1, 1, 0, 25);
@@ -179,6 +183,47 @@ public final class ForecastsTest {
         check.due("19: 15 of 16 pass, but 3 hands are all", x.bestHand(), -6);
         x.hands(0, 2);
         check.due("19: a third hand", x.bestHand(), 0);
+        DoubtfulTrunks y = stuckAt(1, 2);
+        y.hands(0, 0);
+        for (int trunk = 0; trunk < 6; trunk++) {
+            Check.come(y, "0:/");
+        }
+        y.hands(1, 1);
+        y.hands(2, 3);
+        check.due("19: one hand more, not two", y.bestHand(), 0);
+        check.due("19: five pass by it and two are opened", hand(y, 0), 5 + 2);
+        check.due("19: as bestHand found", hand(y, 1), 2);
+    }
+
+    /** How many pass in 5 turns with a hand more, by making the turns. */
+    private static int hand(DoubtfulTrunks x, int desk) {
+        x.hands(desk, x.desk(desk, 0) + 1);
+        int passed = x.turn(5);
+        x.undo();
+        x.undo();
+        return passed;
+    }
+
+    /** Whether no trunk is opened with this SMALL, by making the turns. */
+    private static boolean isEnough(DoubtfulTrunks x, int small) {
+        int opened = x.count(10);
+        x.set(DoubtfulTrunks.SMALL, small);
+        x.turn(99);
+        boolean enough = x.count(10) == opened;
+        x.undo();
+        x.undo();
+        return enough;
+    }
+
+    private static void leastSmallByTurns() {
+        for (int pieces = 1; pieces <= 9; pieces++) {
+            DoubtfulTrunks x = new DoubtfulTrunks();
+            Check.come(x, "0:f" + pieces + "/=a1");
+            Check.come(x, "0:e" + pieces + "/");
+            int least = x.leastSmall();
+            check.holds("20: enough is " + least, isEnough(x, least));
+            check.holds("20: not " + (least - 1), !isEnough(x, least - 1));
+        }
     }
 
     private static void leastSmall() {
@@ -243,6 +288,10 @@ public final class ForecastsTest {
         x.turn(2);
         x.mend(1, 0, 4, 0);
         check.due("20: alike at the desk 2", x.leastSmall(), 0);
+        x.mend(1, 0, 0, 1);
+        x.trust(0, 9);
+        check.due("20: the least doubt", x.trunk(1, 3), 1);
+        check.due("20: the least doubt at the desk 2", x.leastSmall(), -6);
     }
 
     private static void nothingChanges() {

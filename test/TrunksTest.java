@@ -91,6 +91,9 @@ public final class TrunksTest {
         check.due("6: the pad is kept", x.count(17), 3);
         check.due("6: the last one", x.trunk(63, 7), 3);
         check.due("6: none behind it", x.trunk(64, 7), -1);
+        check.due("6: sent back", x.count(11), 64);
+        check.due("6: not fined", x.count(16), 0);
+        check.due("6: none in a queue", x.mostDoubted(), -6);
         x.undo();
         x.undo();
         check.due("6: 63 came", x.count(7), 63);

@@ -734,7 +734,7 @@ public final class DoubtfulTrunks {
     private static final class History {
         private final State[] rows = {new State(), new State(), new State(), new State()};
         private int oldest;
-        private int size;
+        int size;
 
         void keep(State state) {
             rows[(oldest + size) % MOST_UNDONE].copyFrom(state);
