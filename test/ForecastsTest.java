@@ -183,16 +183,15 @@ public final class ForecastsTest {
         check.due("19: 15 of 16 pass, but 3 hands are all", x.bestHand(), -6);
         x.hands(0, 2);
         check.due("19: a third hand", x.bestHand(), 0);
-        DoubtfulTrunks y = stuckAt(1, 2);
+        DoubtfulTrunks y = stuckAt(1, 7);
+        y.set(DoubtfulTrunks.SMALL, 5);
         y.hands(0, 0);
-        for (int trunk = 0; trunk < 6; trunk++) {
+        for (int trunk = 0; trunk < 5; trunk++) {
             Check.come(y, "0:/");
         }
-        y.hands(1, 1);
-        y.hands(2, 3);
-        check.due("19: one hand more, not two", y.bestHand(), 0);
-        check.due("19: five pass by it and two are opened", hand(y, 0), 5 + 2);
-        check.due("19: as bestHand found", hand(y, 1), 2);
+        check.due("19: five pass with a hand at the desk 0", hand(y, 0), 5);
+        check.due("19: five with one at the desk 1, not seven with two", hand(y, 1), 5);
+        check.due("19: so the lowest", y.bestHand(), 0);
     }
 
     /** How many pass in 5 turns with a hand more, by making the turns. */

@@ -252,8 +252,9 @@ public final class HistoryTest {
         check.due("24: it did not come", x.count(7), 0);
         check.due("24: it was not opened", x.count(10), 0);
         check.due("24: nothing was taken", x.count(15), 0);
+        x.turn(1);
         Check.come(x, "1:c3/");
-        int[] due = {1, 0, 0, 9 + 4, 4, 0, 2, 0, 0, 0};
+        int[] due = {1, 0, 0, 9 + 4, 4, 0, 3, 0, 0, 0};
         for (int what = 0; what <= 9; what++) {
             check.due("24: of the other, trunk(0, " + what + ")", x.trunk(0, what), due[what]);
         }

@@ -112,7 +112,7 @@ public final class LanguageTest {
 
     private static int dearCalls(DoubtfulTrunks x) {
         int sum = 0;
-        for (int i = 0; i < 20; i++) {
+        for (int i = 0; i < 18; i++) {
             x.put(0x303A61322F623321L >>> 8);
             sum += x.read() + x.turn(2) + x.mend(i, 0, 0, 3) + x.sendBack(i) + x.untilGone(0) + x.fate(0)
                     + x.mostDoubted() + x.ifTurned(200, 2) + x.bestHand() + x.leastSmall() + x.wipe() + x.fault()

@@ -492,17 +492,18 @@ public final class DoubtfulTrunks {
             return found;
         }
 
+        /** What stands behind the trunks that came is never looked at, and so is not copied. */
         void copyFrom(Trunks other) {
             came = other.came;
-            System.arraycopy(other.countries, 0, countries, 0, MOST_TRUNKS);
+            System.arraycopy(other.countries, 0, countries, 0, came);
             for (int paper = 0; paper < PAPERS; paper++) {
-                System.arraycopy(other.papers[paper], 0, papers[paper], 0, MOST_TRUNKS);
+                System.arraycopy(other.papers[paper], 0, papers[paper], 0, came);
             }
-            System.arraycopy(other.accounts, 0, accounts, 0, MOST_TRUNKS);
-            System.arraycopy(other.arrivals, 0, arrivals, 0, MOST_TRUNKS);
-            System.arraycopy(other.fates, 0, fates, 0, MOST_TRUNKS);
-            System.arraycopy(other.finedKinds, 0, finedKinds, 0, MOST_TRUNKS);
-            System.arraycopy(other.handOns, 0, handOns, 0, MOST_TRUNKS);
+            System.arraycopy(other.accounts, 0, accounts, 0, came);
+            System.arraycopy(other.arrivals, 0, arrivals, 0, came);
+            System.arraycopy(other.fates, 0, fates, 0, came);
+            System.arraycopy(other.finedKinds, 0, finedKinds, 0, came);
+            System.arraycopy(other.handOns, 0, handOns, 0, came);
         }
     }
 
